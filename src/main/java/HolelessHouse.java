@@ -426,6 +426,22 @@ public final class HolelessHouse {
         return (set >> v & 1) != 0;
     }
 
+    private static int withoutLeast(int set) {
+        return set & set - 1;
+    }
+
+    // Each pass is done with one node, and no node comes back: so as many passes as nodes are enough.
+    private static int reached(int[] near, int from, int within) {
+        int met = 1 << from;
+        int fresh = met;
+        for (int pass = 0; pass < MOST_NODES && fresh != 0; pass++) {
+            int more = near[Integer.numberOfTrailingZeros(fresh)] & within & ~met;
+            met |= more;
+            fresh = withoutLeast(fresh) | more;
+        }
+        return met;
+    }
+
     private static final class Graph {
         private final int[] near = new int[MOST_NODES];
         private int size = 0;
@@ -500,25 +516,16 @@ public final class HolelessHouse {
 
         private int around(int set) {
             int met = 0;
-            for (int v = 0; v < size; v++) {
-                if (in(set, v)) {
-                    met |= near[v];
-                }
+            int rest = set;
+            for (int pass = 0; pass < size && rest != 0; pass++) {
+                met |= near[Integer.numberOfTrailingZeros(rest)];
+                rest = withoutLeast(rest);
             }
             return met & ~set;
         }
 
-        // Each pass reaches one more node at least, so that size passes are enough.
         private int reach(int from, int within) {
-            int reached = 1 << from;
-            for (int pass = 0; pass < size; pass++) {
-                int more = around(reached) & within;
-                if (more == 0) {
-                    break;
-                }
-                reached |= more;
-            }
-            return reached;
+            return reached(near, from, within);
         }
     }
 
@@ -535,12 +542,14 @@ public final class HolelessHouse {
         private void leave(int step, int v) {
             int[] from = near[step];
             int[] to = near[step + 1];
-            int around = from[v];
-            for (int u = 0; u < size; u++) {
-                int kept = from[u] & ~(1 << v);
-                to[u] = in(around, u) ? kept | around & ~(1 << u) : kept;
-            }
+            System.arraycopy(from, 0, to, 0, MOST_NODES);
             to[v] = 0;
+            int rest = from[v];
+            for (int pass = 0; pass < size && rest != 0; pass++) {
+                int u = Integer.numberOfTrailingZeros(rest);
+                to[u] = (from[u] | from[v]) & ~(1 << u) & ~(1 << v);
+                rest = withoutLeast(rest);
+            }
         }
 
         private int width(int step, int v) {
@@ -551,10 +560,10 @@ public final class HolelessHouse {
             int[] now = near[step];
             int around = now[v];
             int ends = 0;
-            for (int u = 0; u < size; u++) {
-                if (in(around, u)) {
-                    ends += Integer.bitCount(around & ~now[u]) - 1;
-                }
+            int rest = around;
+            for (int pass = 0; pass < size && rest != 0; pass++) {
+                ends += Integer.bitCount(around & ~now[Integer.numberOfTrailingZeros(rest)]) - 1;
+                rest = withoutLeast(rest);
             }
             return ends / 2;
         }
@@ -562,10 +571,13 @@ public final class HolelessHouse {
         private boolean isTight(int step, int v) {
             int[] now = near[step];
             int around = now[v];
-            for (int u = 0; u < size; u++) {
-                if (in(around, u) && (around & ~now[u]) != 1 << u) {
+            int rest = around;
+            for (int pass = 0; pass < size && rest != 0; pass++) {
+                int u = Integer.numberOfTrailingZeros(rest);
+                if ((around & ~now[u]) != 1 << u) {
                     return false;
                 }
+                rest = withoutLeast(rest);
             }
             return true;
         }
@@ -578,6 +590,22 @@ public final class HolelessHouse {
                 }
             }
             return -1;
+        }
+
+        // One pair around v is missing. If a way outside leads from one of it to the other, then whoever leaves
+        // the pair out has to join v to all of that way; to join one of the pair to it instead, and the pair,
+        // costs no more: so v may go first.
+        private boolean hasWayOutside(int step, int v, int left) {
+            int[] now = near[step];
+            int around = now[v];
+            int pair = 0;
+            for (int u = 0; u < size; u++) {
+                if (in(around, u) && (around & ~now[u]) != 1 << u) {
+                    pair |= 1 << u;
+                }
+            }
+            int outside = left & ~around & ~(1 << v);
+            return (reached(now, Integer.numberOfTrailingZeros(pair), outside | pair) & pair) == pair;
         }
 
         private int price(int rule, int step, int v) {
@@ -718,6 +746,7 @@ public final class HolelessHouse {
 
         private final Going going = new Going();
         private final int[] notes = new int[1 << MOST_NODES];
+        private final int[][] prices = new int[MOST_NODES][MOST_NODES];
         private int rule = 0;
         private int all = 0;
         private int size = 0;
@@ -759,18 +788,45 @@ public final class HolelessHouse {
             if (step >= s.size || s.notes[gone] != UNKNOWN) {
                 return s.notes[gone];
             }
-            // With a tight node to go first no order is the worse for it, neither in fill nor in width.
-            int tight = s.going.leastTight(step, s.all & ~gone);
-            int tried = tight >= 0 ? 1 << tight : s.all & ~gone;
-            int best = Integer.MAX_VALUE;
-            for (int v = 0; v < s.size; v++) {
-                int price = in(tried, v) ? s.going.price(s.rule, step, v) : Integer.MAX_VALUE;
-                if (price < best) {
-                    best = Math.min(best, s.both(price, leastAfter(s, gone, step, v)));
+            int left = s.all & ~gone;
+            int cheap = s.priceAll(step, left);
+            int sure = s.neverWrong(step, left, cheap);
+            int first = sure >= 0 ? sure : cheap;
+            int[] price = s.prices[step];
+            int best = s.both(price[first], leastAfter(s, gone, step, first));
+            // No fill is less than that of the cheapest node, and no width is less than the fewest joined to one.
+            for (int v = 0; v < s.size && sure < 0 && best > price[cheap]; v++) {
+                if (price[v] < best) {
+                    best = Math.min(best, s.both(price[v], leastAfter(s, gone, step, v)));
                 }
             }
             s.notes[gone] = best;
             return best;
+        }
+
+        /** Notes what each node costs that is left, and answers the cheapest. */
+        private int priceAll(int step, int left) {
+            int[] price = prices[step];
+            int cheap = 0;
+            for (int v = 0; v < size; v++) {
+                price[v] = in(left, v) ? going.price(rule, step, v) : Integer.MAX_VALUE;
+                cheap = price[v] < price[cheap] ? v : cheap;
+            }
+            return cheap;
+        }
+
+        /** A node that may go first without loss, or -1. */
+        private int neverWrong(int step, int left, int cheap) {
+            if (rule == BY_JOINED) {
+                return going.leastTight(step, left);
+            }
+            int low = prices[step][cheap];
+            for (int v = cheap; v < size && low == 1; v++) {
+                if (prices[step][v] == 1 && going.hasWayOutside(step, v, left)) {
+                    return v;
+                }
+            }
+            return low == 0 ? cheap : -1;
         }
 
         private static int leastAfter(LeastSearch s, int gone, int step, int v) {
