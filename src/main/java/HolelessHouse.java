@@ -17,6 +17,8 @@ public final class HolelessHouse {
     private static final int PLAIN = 0, TIGHT = 1, LONE = 2, HUB = 3;
     private static final int BY_TIGHT = 0, BY_JOINED = 1, BY_FILL = 2;
     private static final int LEAST_FILL = 0, LEAST_WIDTH = 1;
+    // Above every fill and every width: twelve nodes have 66 pairs.
+    private static final int NO_PRICE = 1000;
 
     private final Graph graph = new Graph();
     private final Table table = new Table();
@@ -592,9 +594,9 @@ public final class HolelessHouse {
             return -1;
         }
 
-        // One pair around v is missing. If a way outside leads from one of it to the other, then whoever leaves
-        // the pair out has to join v to all of that way; to join one of the pair to it instead, and the pair,
-        // costs no more: so v may go first.
+        // Asked where one pair alone is missing around v. If a way outside leads from one of it to the other, v may
+        // go first: a filled graph without the pair joins v to all of a shortest such way, and with v merged into
+        // one of the pair it has the pair and costs no more, for two edges to the way's first node become one.
         private boolean hasWayOutside(int step, int v, int left) {
             int[] now = near[step];
             int around = now[v];
@@ -621,9 +623,9 @@ public final class HolelessHouse {
 
         private int cheapest(int rule, int step, int left) {
             int best = 0;
-            int bestPrice = Integer.MAX_VALUE;
+            int bestPrice = NO_PRICE;
             for (int v = 0; v < size; v++) {
-                int price = in(left, v) ? price(rule, step, v) : Integer.MAX_VALUE;
+                int price = in(left, v) ? price(rule, step, v) : NO_PRICE;
                 if (price < bestPrice) {
                     best = v;
                     bestPrice = price;
@@ -809,7 +811,7 @@ public final class HolelessHouse {
             int[] price = prices[step];
             int cheap = 0;
             for (int v = 0; v < size; v++) {
-                price[v] = in(left, v) ? going.price(rule, step, v) : Integer.MAX_VALUE;
+                price[v] = in(left, v) ? going.price(rule, step, v) : NO_PRICE;
                 cheap = price[v] < price[cheap] ? v : cheap;
             }
             return cheap;
