@@ -2,7 +2,12 @@ import java.util.ArrayList;
 import java.util.Arrays;
 import java.util.List;
 
-/** The document again, as slow and as near to its words as can be: nothing is kept but the state, all is tried out. */
+/**
+ * The document again, near to its words and slow. Two things are not tried out one by one, for they would take too long:
+ * the least over all orders of more than six nodes (by sets of those gone), and that there are no spans with more than
+ * seven cliques (the document's word: a hole or far ones). Where the document leaves a choice this model reads it as the
+ * class does, so it says nothing about those choices.
+ */
 final class PlainModel {
     static final int BAD = -1, FINDING = -3, STATE = -4, NONE = -9;
 
