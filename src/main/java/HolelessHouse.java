@@ -43,8 +43,7 @@ public final class HolelessHouse {
         if (n < 0 || n > MOST_NODES) {
             return BAD;
         }
-        graph.restart(n);
-        ordering.drop();
+        startGraph(n);
         return n;
     }
 
@@ -96,13 +95,12 @@ public final class HolelessHouse {
     }
 
     public int fromTable() {
-        graph.restart(table.width);
+        startGraph(table.width);
         for (int r = 0; r < TABLE_ROWS; r++) {
             if (table.rows[r] != MISSING) {
                 graph.joinAll(table.rows[r]);
             }
         }
-        ordering.drop();
         return graph.size;
     }
 
@@ -375,6 +373,12 @@ public final class HolelessHouse {
         latest = which;
         timesFound[which]++;
         return FINDING;
+    }
+
+    private void startGraph(int n) {
+        graph.restart(n);
+        ordering.drop();
+        ordering.keepDrafted(graph.all());
     }
 
     private boolean isKind(int a, int kind) {
@@ -687,6 +691,18 @@ public final class HolelessHouse {
                 drafts[draftSize] = a;
                 draftSize++;
             }
+        }
+
+        // THE DRAFT has NODES alone: what is none any more leaves it. No promise takes the others out.
+        private void keepDrafted(int nodes) {
+            int kept = 0;
+            for (int i = 0; i < draftSize; i++) {
+                if (in(nodes, drafts[i])) {
+                    drafts[kept] = drafts[i];
+                    kept++;
+                }
+            }
+            draftSize = kept;
         }
 
         private void begin(Graph graph) {

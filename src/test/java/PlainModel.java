@@ -54,6 +54,7 @@ final class PlainModel {
         if (k < 0 || k > 12) return BAD;
         n = k;
         edge = new boolean[12][12];
+        draft.removeIf(a -> !node(a));
         changed();
         return n;
     }

@@ -30,6 +30,7 @@ public final class PromiseTest {
 
     private static void orderPromises() {
         p11draft();
+        p11draftAfterNodes();
         p12take();
         p12takeAfterNodes();
         p13rule();
@@ -286,28 +287,47 @@ public final class PromiseTest {
         due("take() without nodes", new HolelessHouse().take(), 0);
     }
 
-    /** No promise says that THE DRAFT goes with the NODES: what it has stays, but it is an ORDER only of just all NODES. */
-    private static void p12takeAfterNodes() {
-        HolelessHouse x = graph(3, "");
-        x.draft(2);
-        x.draft(0);
-        x.nodes(4);
-        due("THE DRAFT stays", x.count(4), 2);
-        due("and has what it had", x.draft(2), BAD);
-        x.draft(1);
-        due("the last one", x.draft(3), 4);
+    /** THE DRAFT keeps what is a NODE still, for no promise empties it, and nothing that is none any more. */
+    private static void p11draftAfterNodes() {
+        HolelessHouse x = graph(6, "");
+        for (int a : new int[] {5, 2, 3, 0}) x.draft(a);
+        due("nodes() refused", x.nodes(13), BAD);
+        due("THE DRAFT stays", x.count(4), 4);
+        x.nodes(3);
+        due("those that are NODES stay", x.count(4), 2);
+        due("and it has them", x.draft(2), BAD);
+        x.nodes(6);
+        due("what went does not come back", x.count(4), 2);
+        due("it may come again", x.draft(5), 3);
+        x.columns(3);
+        due("columns() leaves THE DRAFT", x.count(4), 3);
+        x.fromTable();
+        due("fromTable() as nodes()", x.count(4), 2);
+        x.turn();
+        due("turn() leaves THE DRAFT", x.count(4), 2);
+        due("the last one", x.draft(1), 3);
         due("take()", x.take(), 0);
-        dueOrder("take()", x, "2013");
+        dueOrder("take()", x, "201");
+    }
+
+    private static void p12takeAfterNodes() {
+        HolelessHouse x = graph(4, "");
         x.draft(3);
         x.nodes(1);
-        due("one that is no NODE any more", x.take(), STATE);
+        due("it has not NODE 0", x.take(), STATE);
         due("no ORDER", x.order(0), NONE);
         x.nodes(2);
         x.draft(1);
         x.draft(0);
         x.nodes(1);
-        due("one too many", x.take(), STATE);
+        due("it has all NODES", x.take(), 0);
+        dueOrder("take()", x, "0");
         due("THE DRAFT is empty", x.count(4), 0);
+        x.draft(0);
+        x.nodes(0);
+        due("take() without nodes", x.take(), 0);
+        due("an ORDER without nodes", x.about(2), 1);
+        due("no place", x.order(0), NONE);
     }
 
     private static void p13rule() {
@@ -698,6 +718,11 @@ public final class PromiseTest {
         int[] want = {5, 3, 6, 2, 1};
         for (int what = 0; what < 5; what++) due("count(" + what + ")", x.count(what), want[what]);
         for (int what : new int[] {-1, 5, LOW, HIGH}) due("count(" + what + ")", x.count(what), BAD);
+        x.columns(0);
+        x.fromTable();
+        due("no NODE in THE DRAFT where there is none", x.count(4), 0);
+        x.nodes(5);
+        due("nor afterwards", x.count(4), 0);
     }
 
     private static void p36finding() {
@@ -758,5 +783,9 @@ public final class PromiseTest {
         x.part(0, 1, 0);
         x.seatings();
         due("questions change nothing", x.digest(), before);
+        x.nodes(2);
+        due("fewer NODES", x.digest(), digestOf(2, 0, 0, 4, -1, 9, -1, -1, -1, -1, -1, -1, -1, -1, -1, 0, 1));
+        x.nodes(0);
+        due("no NODES", x.digest(), digestOf(0, 4, -1, 9, -1, -1, -1, -1, -1, -1, -1, -1, -1, 0));
     }
 }
