@@ -74,43 +74,20 @@ public final class PromiseTest {
         check.due(call, got, want);
     }
 
-    /** A graph by its pairs, two digits in base 12 each (a for 10, b for 11). */
     private static HolelessHouse graph(int n, String pairs) {
-        HolelessHouse x = new HolelessHouse();
-        x.nodes(n);
-        for (String pair : pairs.split(" ")) {
-            if (pair.length() == 2) {
-                x.join(Character.digit(pair.charAt(0), 12), Character.digit(pair.charAt(1), 12), true);
-            }
-        }
-        return x;
+        return Houses.graph(n, pairs);
     }
 
     private static HolelessHouse table(int c, int... rows) {
-        HolelessHouse x = new HolelessHouse();
-        x.columns(c);
-        for (int r = 0; r < rows.length; r++) x.row(r, rows[r]);
-        return x;
-    }
-
-    private static String order(HolelessHouse x) {
-        StringBuilder row = new StringBuilder();
-        for (int i = 0; i < 13 && x.order(i) != NONE; i++) row.append(Character.forDigit(x.order(i), 12));
-        return row.toString();
+        return Houses.table(c, rows);
     }
 
     private static void dueOrder(String call, HolelessHouse x, String want) {
-        check.holds(call + ": order " + order(x) + ", due is " + want, order(x).equals(want));
-    }
-
-    private static String hole(HolelessHouse x) {
-        StringBuilder row = new StringBuilder();
-        for (int i = 0; i < 13 && x.hole(i) != NONE; i++) row.append(Character.forDigit(x.hole(i), 12));
-        return row.toString();
+        check.holds(call + ": order " + Houses.order(x) + ", due is " + want, Houses.order(x).equals(want));
     }
 
     private static void dueHole(HolelessHouse x, String want) {
-        check.holds("hole " + hole(x) + ", due is " + want, hole(x).equals(want));
+        check.holds("hole " + Houses.hole(x) + ", due is " + want, Houses.hole(x).equals(want));
     }
 
     private static void constants() {
