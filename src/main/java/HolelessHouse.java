@@ -598,9 +598,10 @@ public final class HolelessHouse {
             return -1;
         }
 
-        // Asked where one pair alone is missing around v. If a way outside leads from one of it to the other, v may
-        // go first: a filled graph without the pair joins v to all of a shortest such way, and with v merged into
-        // one of the pair it has the pair and costs no more, for two edges to the way's first node become one.
+        // Asked where one pair x, y alone is missing around v. If a way outside leads from x to y, v may go first: in a
+        // filled graph without that pair v is joined to all of a shortest such way, or it would be in a hole. Merge v
+        // into x there: that makes no hole and joins x to y, and of each two edges from v and x to one node it leaves
+        // one, for the others around v and for the way's first node; so it costs no more than to fill the pair in.
         private boolean hasWayOutside(int step, int v, int left) {
             int[] now = near[step];
             int around = now[v];
@@ -782,26 +783,23 @@ public final class HolelessHouse {
 
         /** Lets the first node go with which all to come stays within the bound, and answers it. */
         private int letFirstGo(int gone, int step, int bound) {
-            int first = 0;
             for (int v = 0; v < size; v++) {
-                if (!in(gone, v) && fits(gone, step, v, bound)) {
-                    first = v;
-                    break;
+                int price = in(gone, v) ? NO_PRICE : going.price(rule, step, v);
+                if (price <= bound) {
+                    going.leave(step, v);
+                    if (both(price, leastFrom(this, gone | 1 << v, step + 1)) <= bound) {
+                        return v;
+                    }
                 }
             }
-            going.leave(step, first);
-            return first;
-        }
-
-        private boolean fits(int gone, int step, int v, int bound) {
-            int price = going.price(rule, step, v);
-            return price <= bound && both(price, leastAfter(this, gone, step, v)) <= bound;
+            return 0;
         }
 
         private int both(int price, int later) {
             return rule == BY_FILL ? price + later : Math.max(price, later);
         }
 
+        // The likeliest node is tried first: with a low price found, most others need no look at what comes after them.
         private static int leastFrom(LeastSearch s, int gone, int step) {
             if (step >= s.size || s.notes[gone] != UNKNOWN) {
                 return s.notes[gone];
@@ -810,12 +808,18 @@ public final class HolelessHouse {
             int cheap = s.priceAll(step, left);
             int sure = s.neverWrong(step, left, cheap);
             int first = sure >= 0 ? sure : cheap;
+            int tries = sure >= 0 ? 1 : s.size + 1;
             int[] price = s.prices[step];
-            int best = s.both(price[first], leastAfter(s, gone, step, first));
+            int best = NO_PRICE;
             // No fill is less than that of the cheapest node, and no width is less than the fewest joined to one.
-            for (int v = 0; v < s.size && sure < 0 && best > price[cheap]; v++) {
+            for (int i = 0; i < tries && best > price[cheap]; i++) {
+                int v = i == 0 ? first : i - 1;
+                int then = gone | 1 << v;
                 if (price[v] < best) {
-                    best = Math.min(best, s.both(price[v], leastAfter(s, gone, step, v)));
+                    if (s.notes[then] == UNKNOWN) {
+                        s.going.leave(step, v);
+                    }
+                    best = Math.min(best, s.both(price[v], leastFrom(s, then, step + 1)));
                 }
             }
             s.notes[gone] = best;
@@ -845,15 +849,6 @@ public final class HolelessHouse {
                 }
             }
             return low == 0 ? cheap : -1;
-        }
-
-        private static int leastAfter(LeastSearch s, int gone, int step, int v) {
-            int then = gone | 1 << v;
-            if (s.notes[then] == UNKNOWN) {
-                s.going.leave(step, v);
-                return leastFrom(s, then, step + 1);
-            }
-            return s.notes[then];
         }
     }
 

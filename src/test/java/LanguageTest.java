@@ -11,6 +11,7 @@ import java.util.Set;
 import java.util.TreeSet;
 import java.util.regex.Matcher;
 import java.util.regex.Pattern;
+import javax.lang.model.element.ExecutableElement;
 
 /** The face of the document, the rules of the language that can be seen in the text, and what calls make. */
 public final class LanguageTest {
@@ -24,6 +25,7 @@ public final class LanguageTest {
         String text = withoutComments(Files.readString(SOURCE));
         words(text);
         methods(text);
+        calls(new CallTree(SOURCE));
         classes();
         room();
         check.end();
@@ -93,6 +95,25 @@ public final class LanguageTest {
             check.holds("private " + m.group(2) + " has a name of its own", !named);
         }
         check.holds("methods were seen: " + seen, seen > 80);
+    }
+
+    private static void calls(CallTree tree) {
+        check.holds("methods were seen: " + tree.methods().size(), tree.methods().size() > 80);
+        Set<String> library = Set.of("Integer.bitCount", "Integer.numberOfLeadingZeros", "Integer.numberOfTrailingZeros",
+            "Math.max", "Math.min", "System.arraycopy", "Arrays.fill");
+        for (String name : tree.fromLibrary()) check.holds("rule 4: " + name, library.contains(name));
+        Set<String> recursive = new TreeSet<>();
+        for (ExecutableElement method : tree.methods()) {
+            List<String> row = new ArrayList<>();
+            for (ExecutableElement open : tree.longestFrom(method)) row.add(CallTree.name(open));
+            check.holds("rule 11, at most eight deep: " + row, row.size() <= 8);
+            if (!tree.isRecursive(method)) continue;
+            recursive.add(CallTree.name(method));
+            check.holds("rule 8, private and static: " + CallTree.name(method), CallTree.isPrivateStatic(method));
+        }
+        // Each of these ends at a number of nodes, places or columns; one more has to be looked at before it stands here.
+        Set<String> looked = Set.of("Benches.seatsRest", "Cliques.gather", "LeastSearch.leastFrom", "Paint.paints", "Ring.closes");
+        check.holds("rule 8, methods that call themselves: " + recursive, recursive.equals(looked));
     }
 
     private static void classes() {

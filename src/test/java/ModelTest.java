@@ -29,6 +29,7 @@ public final class ModelTest {
         for (int seed = 0; seed < 24; seed++) new ModelTest(check, 200_000 + seed, 12, 8).graphRun();
         for (int seed = 0; seed < 600; seed++) new ModelTest(check, 300_000 + seed, 9, 0).leastRun();
         for (int n = 4; n <= 12; n++) new ModelTest(check, n, n, 0).ringRuns();
+        for (int n = 1; n <= 5; n++) new ModelTest(check, n, n, 0).everyGraph();
         check.end();
     }
 
@@ -211,6 +212,19 @@ public final class ModelTest {
             for (int i = 0; i <= m.n; i++) due("hole(" + i + ")", x.hole(i), m.hole(i));
             due("turn()", x.turn(), m.turn());
             askLeast();
+        }
+    }
+
+    private void everyGraph() {
+        for (int pairs = 0; pairs < 1 << mostNodes * (mostNodes - 1) / 2; pairs++) {
+            start();
+            due("nodes(" + mostNodes + ")", x.nodes(mostNodes), m.nodes(mostNodes));
+            int rest = pairs;
+            for (int a = 0; a < mostNodes; a++) for (int b = 0; b < a; b++) {
+                if ((rest & 1) == 1) joinCall(a, b, true);
+                rest >>= 1;
+            }
+            askAll();
         }
     }
 

@@ -353,6 +353,10 @@ public final class PromiseTest {
         x = graph(6, "01 02 13 23 34 35 45 14 15");
         due("least(1)", x.least(1), 3);
         dueOrder("least(1)", x, "021345");
+        // 0 stands between two rings of four: each NODE has FILL, and that of 0, as little as any, helps no ring.
+        x = graph(9, "01 05 12 23 34 41 56 67 78 85");
+        due("least(0) of two rings", x.least(0), 2);
+        dueOrder("least(0)", x, "234105678");
     }
 
     private static void p15order() {
